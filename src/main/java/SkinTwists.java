@@ -859,9 +859,13 @@ public final class SkinTwists {
 
         /** The row becomes its image by one twist; false, and the row is left, if that is LARGE. */
         boolean doTwist(int code, Row row) {
+            if (code < 0 || code >= MOST_CODES || row.size > MOST_IN_ROW) {
+                return false;
+            }
+            int middle = slotOf(code, 0);
             int size = 0;
             for (int k = 0; k < row.size; k++) {
-                int slot = slotOf(code, row.cells[k]);
+                int slot = middle + row.cells[k] * SLOT;
                 int end = slot + words[slot];
                 for (int w = slot + 1; w <= end; w++) {
                     int letter = words[w];

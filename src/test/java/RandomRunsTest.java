@@ -6,13 +6,15 @@ public final class RandomRunsTest {
     private static final String[] CALLS = {
         "skin", "letter", "ring", "told", "at", "meets", "one", "heap", "drop", "count", "feed", "read", "fault",
         "twist", "chain", "turn", "image", "carried", "meetsThen", "same", "turns", "order", "table", "character",
-        "length", "sort", "law", "carry", "fewest", "a ring", "a carried ring", "a text", "a broken text"
+        "length", "sort", "law", "carry", "fewest", "a ring", "a carried ring", "a text", "a broken text",
+        "a way", "a chain", "deep brackets"
     };
     // how often a call comes, in the order above
     private static final int[] WEIGHTS = {
         1, 20, 4, 20, 10, 30, 12, 20, 5, 8, 2, 1, 10,
         10, 10, 6, 20, 20, 20, 20, 10, 10, 20, 20,
-        12, 20, 6, 3, 3, 25, 25, 40, 15
+        12, 20, 6, 3, 3, 25, 25, 40, 15,
+        6, 12, 3
     };
 
     private final Random random;
@@ -90,6 +92,9 @@ public final class RandomRunsTest {
             case "a ring": someRing(); break;
             case "a carried ring": carriedRing(); break;
             case "a text": text(someItems(0, 4)); check("read", new int[] {p}); break;
+            case "a way": someWay(p); break;
+            case "a chain": text(someChain()); check("read", new int[] {p}); break;
+            case "deep brackets": text(someBrackets()); check("read", new int[] {p}); check("fault", new int[] {}); break;
             default: brokenText(); check("read", new int[] {p}); check("fault", new int[] {}); break;
         }
     }
@@ -169,23 +174,83 @@ public final class RandomRunsTest {
         }
     }
 
+    /** A few twists, a ring that they carry some ring to, and what is found of them again. */
+    private void someWay(int p) {
+        StringBuilder text = new StringBuilder();
+        for (int k = random.nextInt(3); k >= 0; k--) {
+            text.append(someTwist());
+        }
+        text(text.toString());
+        check("read", new int[] {p});
+        check("fewest", new int[] {p, near(0, 3), near(-1, 2)});
+        makeRoom();
+        int r = ring();
+        if (p < 0 || p > 7 || r < 0 || r >= slow.rings.size()) {
+            return;
+        }
+        try {
+            for (int x : slow.imageOf(slow.plans.get(p), slow.rings.get(r))) {
+                check("letter", new int[] {x});
+            }
+            check("ring", new int[] {});
+            for (int i = -1; i < 3; i++) {
+                check("carry", new int[] {r, slow.rings.size() - 1, 3, i});
+            }
+            check("carry", new int[] {r, slow.rings.size() - 1, near(0, 2), 0});
+        } catch (SlowTwists.TooLarge large) {
+            check("carried", new int[] {p, r, -1});
+        }
+    }
+
+    /** Twists of rings each of which meets the next: such plans come back. */
+    private String someChain() {
+        String[] ways = {"", "-"};
+        String way = ways[random.nextInt(2)];
+        String[] chain = {"a1", "b1", "c1", "b2", "c2", "b3"};
+        int last = 1 + random.nextInt(2 * slow.g);
+        int first = random.nextInt(Math.min(2, last));
+        StringBuilder text = new StringBuilder("(");
+        for (int k = first; k < last; k++) {
+            text.append(chain[k]).append(way);
+        }
+        if (random.nextInt(3) == 0) {
+            text.append(chain[last - 1]).append(way);
+        }
+        return text.append(")").append(1 + random.nextInt(random.nextInt(2) == 0 ? 9 : 2)).toString();
+    }
+
+    private String someBrackets() {
+        StringBuilder text = new StringBuilder();
+        for (int k = 2 + random.nextInt(4); k >= 0; k--) {
+            text.append(blank()).append(random.nextInt(12) == 0 ? ")2(" : "(");
+        }
+        text.append("a1");
+        for (int k = 2 + random.nextInt(4); k >= 0; k--) {
+            text.append(blank()).append(')').append(random.nextInt(4));
+        }
+        return text.toString();
+    }
+
+    private String someTwist() {
+        int kind = random.nextInt(slow.g == 1 ? 2 : 3);
+        int handle = 1 + random.nextInt(kind == 2 ? slow.g - 1 : slow.g);
+        return "abc".charAt(kind) + blank() + handle + blank() + (random.nextInt(3) == 0 ? "-" : "");
+    }
+
     private String blank() {
         return random.nextInt(12) == 0 ? " " : "";
     }
 
     private String someItems(int depth, int most) {
         StringBuilder text = new StringBuilder();
-        int items = random.nextInt(most + 1);
+        int items = random.nextInt(10) == 0 ? 0 : 1 + random.nextInt(most);
         for (int k = 0; k < items; k++) {
             text.append(blank());
             if (random.nextInt(4) == 0 && depth < 4) {
                 text.append('(').append(someItems(depth + 1, most)).append(blank()).append(')').append(blank());
                 text.append(1 + random.nextInt(random.nextInt(3) == 0 ? 9 : 3));
             } else {
-                int kind = random.nextInt(slow.g == 1 ? 2 : 3);
-                text.append("abc".charAt(kind)).append(blank());
-                text.append(1 + random.nextInt(kind == 2 ? slow.g - 1 : slow.g)).append(blank());
-                text.append(random.nextInt(3) == 0 ? "-" : "");
+                text.append(someTwist());
             }
         }
         return text.append(blank()).toString();

@@ -18,6 +18,8 @@ final class SlowTwists {
 
     /** Thrown where some row would have more than 400 letters. */
     static final class TooLarge extends RuntimeException {
+        private static final long serialVersionUID = 1L;
+
         TooLarge() {
             super(null, null, false, false);
         }
@@ -25,6 +27,8 @@ final class SlowTwists {
 
     /** Thrown at the first fault of a text. */
     static final class Fault extends RuntimeException {
+        private static final long serialVersionUID = 1L;
+
         final int number;
         final int place;
 
