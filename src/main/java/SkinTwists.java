@@ -767,8 +767,13 @@ public final class SkinTwists {
         }
 
         private static int stepsRound(int from, int to) {
-            int steps = PLACES[to + MOST_LETTERS] - PLACES[from + MOST_LETTERS];
+            int steps = placeOf(to) - placeOf(from);
             return steps < 0 ? steps + ROUND : steps;
+        }
+
+        private static int placeOf(int letter) {
+            int index = letter + MOST_LETTERS;
+            return index >= 0 && index < PLACES.length ? PLACES[index] : 0;
         }
     }
 
@@ -866,12 +871,15 @@ public final class SkinTwists {
             int size = 0;
             for (int k = 0; k < row.size; k++) {
                 int slot = middle + row.cells[k] * SLOT;
+                if (slot < 0 || slot + SLOT > words.length || words[slot] >= SLOT) {
+                    return false;
+                }
                 int end = slot + words[slot];
                 for (int w = slot + 1; w <= end; w++) {
                     int letter = words[w];
                     if (size > 0 && wide[size - 1] == -letter) {
                         size--;
-                    } else {
+                    } else if (size < wide.length) {
                         wide[size] = letter;
                         size++;
                     }

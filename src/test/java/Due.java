@@ -1,14 +1,45 @@
+import java.io.IOException;
+import java.io.UncheckedIOException;
+import java.nio.file.Files;
+import java.nio.file.Path;
+
 /** Counts and prints the answers that are not the ones that are due. */
 final class Due {
+    private static final Path DOCUMENT = Path.of("../shared/DOC.md");
+
     private int wrong = 0;
     private int asked = 0;
+    private String sentence = "";
+    private String document = "";
+
+    /** Words of the document that the next answers hold to; they must stand in it. */
+    void says(String words) {
+        sentence = words;
+        if (document.isEmpty()) {
+            document = textOfDocument();
+        }
+        is("the document has these words", document.contains(words) ? 1 : 0, 1);
+    }
+
+    private static String textOfDocument() {
+        try {
+            return Files.readString(DOCUMENT).replaceAll("\\s+", " ");
+        } catch (IOException broken) {
+            throw new UncheckedIOException(broken);
+        }
+    }
 
     void is(String what, long got, long want) {
         asked++;
         if (got != want) {
             wrong++;
-            System.out.println(what + " answered " + got + ", due is " + want);
+            String because = sentence.isEmpty() ? "" : " ('" + sentence + "')";
+            System.out.println(what + " answered " + got + ", due is " + want + because);
         }
+    }
+
+    void isNot(String what, long got, long barred) {
+        is(what + " is not " + barred, got == barred ? 1 : 0, 0);
     }
 
     /** Prints how it went and ends the program with 1 if something was wrong. */
@@ -21,8 +52,13 @@ final class Due {
 
     static int feed(SkinTwists skin, String text) {
         int size = skin.count(4);
-        for (int k = 0; k < text.length(); k++) {
-            size = skin.feed(1, text.charAt(k));
+        for (int from = 0; from < text.length(); from += 8) {
+            int n = Math.min(8, text.length() - from);
+            long bytes = 0;
+            for (int k = 0; k < n; k++) {
+                bytes = bytes << 8 | text.charAt(from + k);
+            }
+            size = skin.feed(n, bytes);
         }
         return size;
     }

@@ -42,21 +42,6 @@ public final class PromisesTest {
         test.due.end("PromisesTest");
     }
 
-    private static SkinTwists skinOf(int g) {
-        SkinTwists x = new SkinTwists();
-        x.skin(g);
-        return x;
-    }
-
-    /** A plan in each of the places 0, 1 and so on. */
-    private static SkinTwists plansOf(int g, String... texts) {
-        SkinTwists x = skinOf(g);
-        for (int p = 0; p < texts.length; p++) {
-            Due.read(x, p, texts[p]);
-        }
-        return x;
-    }
-
     private void newObject() {
         SkinTwists x = new SkinTwists();
         due.is("1 handles", x.count(0), 2);
@@ -174,7 +159,7 @@ public final class PromisesTest {
     }
 
     private void meets() {
-        SkinTwists x = skinOf(1);
+        SkinTwists x = Made.skin(1);
         Due.ring(x, 1);
         Due.ring(x, 2);
         Due.ring(x, 1, 1, 2);
@@ -262,7 +247,7 @@ public final class PromisesTest {
     }
 
     private void count() {
-        SkinTwists x = skinOf(3);
+        SkinTwists x = Made.skin(3);
         Due.ring(x, 6);
         x.letter(1);
         x.letter(2);
@@ -326,7 +311,7 @@ public final class PromisesTest {
     }
 
     private void reads(int g, String text, int want, int place) {
-        SkinTwists x = skinOf(g);
+        SkinTwists x = Made.skin(g);
         due.is("13 read of " + text, Due.read(x, 3, text), want);
         due.is("14 place in " + text, x.fault(), place);
     }
@@ -410,7 +395,7 @@ public final class PromisesTest {
     }
 
     private void twist() {
-        SkinTwists x = plansOf(3, "a3b1-c2");
+        SkinTwists x = Made.plans(3, "a3b1-c2");
         due.is("15 how many", x.twist(0, NONE), 3);
         due.is("15 first", x.twist(0, 0), 4);
         due.is("15 second", x.twist(0, 1), 7);
@@ -427,7 +412,7 @@ public final class PromisesTest {
     }
 
     private void chain() {
-        SkinTwists x = plansOf(2, "a1a2", "b1-", "(b2)9(a1)9(c1)9(a2)2");
+        SkinTwists x = Made.plans(2, "a1a2", "b1-", "(b2)9(a1)9(c1)9(a2)2");
         due.is("16 chain", x.chain(3, 0, 1), 3);
         due.is("16 first", x.twist(3, 0), 0);
         due.is("16 last", x.twist(3, 2), 5);
@@ -451,7 +436,7 @@ public final class PromisesTest {
     }
 
     private void turn() {
-        SkinTwists x = plansOf(2, "a1b2-c1");
+        SkinTwists x = Made.plans(2, "a1b2-c1");
         due.is("17 turn", x.turn(1, 0), 3);
         int[] want = {9, 6, 1, NONE};
         for (int i = 0; i < 4; i++) {
@@ -476,7 +461,7 @@ public final class PromisesTest {
     }
 
     private void image() {
-        SkinTwists x = plansOf(2, "a1", "a1-", "b2", "b2-", "c1", "c1-", "a1b1");
+        SkinTwists x = Made.plans(2, "a1", "a1-", "b2", "b2-", "c1", "c1-", "a1b1");
         image(x, 0, 1, 1);
         image(x, 0, 2, 2, 1);
         image(x, 1, 2, 2, -1);
@@ -505,7 +490,7 @@ public final class PromisesTest {
     }
 
     private void largeImages() {
-        SkinTwists x = skinOf(1);
+        SkinTwists x = Made.skin(1);
         // letter 1 has 3, 8, 21, 55, 144, 377, 987 letters by 1 to 7 times a1 b1-
         Due.read(x, 0, "(a1b1-)6");
         due.is("18 not large", x.image(0, 1, NONE), 377);
@@ -525,7 +510,7 @@ public final class PromisesTest {
     }
 
     private void carried() {
-        SkinTwists x = plansOf(2, "a1b1", "(a1b1-)7");
+        SkinTwists x = Made.plans(2, "a1b1", "(a1b1-)7");
         Due.ring(x, 1);
         Due.ring(x, 2);
         Due.ring(x, 3);
@@ -546,7 +531,7 @@ public final class PromisesTest {
             due.is("19 unknown", x.carried(0, 0, far), UNKNOWN);
         }
         // as a ring at the end: its row is longer
-        SkinTwists y = plansOf(2, "c1");
+        SkinTwists y = Made.plans(2, "c1");
         Due.ring(y, 3);
         due.is("19 row", y.image(0, 3, NONE), 9);
         due.is("19 ring", y.carried(0, 0, NONE), 1);
@@ -554,7 +539,7 @@ public final class PromisesTest {
     }
 
     private void meetsThen() {
-        SkinTwists x = plansOf(1, "a1", "(a1)9", "(a1b1-)7");
+        SkinTwists x = Made.plans(1, "a1", "(a1)9", "(a1b1-)7");
         Due.ring(x, 1);
         Due.ring(x, 2);
         Due.ring(x, 2, 2);
@@ -575,7 +560,7 @@ public final class PromisesTest {
     }
 
     private void same() {
-        SkinTwists x = plansOf(2, "a1", "a1a2", "b2", "a1b1a1", "b1a1b1", "(a2b2-)7", "c1", "");
+        SkinTwists x = Made.plans(2, "a1", "a1a2", "b2", "a1b1a1", "b1a1b1", "(a2b2-)7", "c1", "");
         due.is("21 itself", x.same(0, 0), NONE);
         due.is("21 the law of two", x.same(3, 4), NONE);
         due.is("21 fourth letter", x.same(0, 1), 4);
@@ -594,7 +579,7 @@ public final class PromisesTest {
     }
 
     private void turns() {
-        SkinTwists x = plansOf(1, "(a1b1)6", "((a1b1)6)2", "((a1b1)6)3", "((a1b1)6)4", "(((a1b1)5)1)6",
+        SkinTwists x = Made.plans(1, "(a1b1)6", "((a1b1)6)2", "((a1b1)6)3", "((a1b1)6)4", "(((a1b1)5)1)6",
                 "((a1-b1-)6)4", "a1", "(a1b1-)7");
         due.is("22 one back", x.turns(0), -1);
         due.is("22 two back", x.turns(1), -2);
@@ -606,7 +591,7 @@ public final class PromisesTest {
         due.is("22 large", x.turns(7), LARGE);
         Due.read(x, 7, "");
         due.is("22 empty", x.turns(7), 0);
-        SkinTwists y = plansOf(2, "(a1b1c1b2)5(a1b1c1b2)5", "(a1b1c1b2)5");
+        SkinTwists y = Made.plans(2, "(a1b1c1b2)5(a1b1c1b2)5", "(a1b1c1b2)5");
         due.is("22 two handles", y.turns(0), -1);
         due.is("22 half of it", y.turns(1), 99);
         for (int far : new int[] {-1, 8, Integer.MIN_VALUE, Integer.MAX_VALUE}) {
@@ -615,7 +600,7 @@ public final class PromisesTest {
     }
 
     private void order() {
-        SkinTwists x = plansOf(2, "a1b1c1b2", "a1", "", "(a1b1-)7", "a1b1c1b2b2");
+        SkinTwists x = Made.plans(2, "a1b1c1b2", "a1", "", "(a1b1-)7", "a1b1c1b2b2");
         due.is("23 ten", x.order(0, 24), 10);
         due.is("23 ten", x.order(0, 10), 10);
         due.is("23 not within nine", x.order(0, 9), NONE);
@@ -630,13 +615,13 @@ public final class PromisesTest {
             due.is("23 unknown", x.order(far, 0), UNKNOWN);
         }
         // LARGE only if a time that is looked at has it
-        SkinTwists y = plansOf(1, "a1b1-");
+        SkinTwists y = Made.plans(1, "a1b1-");
         due.is("23 none within six", y.order(0, 6), NONE);
         due.is("23 large at seven", y.order(0, 7), LARGE);
     }
 
     private void table() {
-        SkinTwists x = plansOf(2, "c1", "(a1b1-)7", "a1a1-a1a1");
+        SkinTwists x = Made.plans(2, "c1", "(a1b1-)7", "a1a1-a1a1");
         int[][] want = {{1, 0, 0, 0}, {1, 1, -1, 0}, {0, 0, 1, 0}, {-1, 0, 1, 1}};
         for (int a = 1; a <= 4; a++) {
             for (int b = 1; b <= 4; b++) {
@@ -656,7 +641,7 @@ public final class PromisesTest {
     }
 
     private void character() {
-        SkinTwists x = plansOf(2, "a1b1c1b2", "", "(a1b1-)7", "a1b1-a2b2-");
+        SkinTwists x = Made.plans(2, "a1b1c1b2", "", "(a1b1-)7", "a1b1-a2b2-");
         long[] cyclotomic = {1, 1, 1, 1, 1};
         long[] binomial = {1, 4, 6, 4, 1};
         long[] square = {1, 6, 11, 6, 1};
@@ -671,14 +656,14 @@ public final class PromisesTest {
         }
         due.is("25 unknown", x.character(8, -1), UNKNOWN);
         due.is("25 unknown", x.character(-1, 0), UNKNOWN);
-        SkinTwists y = plansOf(3, "");
+        SkinTwists y = Made.plans(3, "");
         due.is("25 six", y.character(0, 3), 20);
         due.is("25 six", y.character(0, 6), 1);
         due.is("25 six", y.character(0, 7), OUTSIDE);
     }
 
     private void length() {
-        SkinTwists x = plansOf(1, "a1b1-", "(a1b1-)7");
+        SkinTwists x = Made.plans(1, "a1b1-", "(a1b1-)7");
         int[] want = {2, 5, 13, 34, 89, 233};
         for (int k = 0; k < want.length; k++) {
             due.is("26 length " + k, x.length(0, k), want[k]);
@@ -698,7 +683,7 @@ public final class PromisesTest {
     }
 
     private void sort() {
-        SkinTwists x = plansOf(2, "a1b1c1b2", "a1", "a1b1-", "a1b1-a2b2-", "(a1b1-)7", "b1b1");
+        SkinTwists x = Made.plans(2, "a1b1c1b2", "a1", "a1b1-", "a1b1-a2b2-", "(a1b1-)7", "b1b1");
         due.is("27 order", x.sort(0, 10), 0);
         due.is("27 order not within", x.sort(0, 9) == 0 ? 1 : 0, 0);
         due.is("27 no ring is told", x.sort(1, 3), 2);
@@ -724,7 +709,7 @@ public final class PromisesTest {
 
     private void ringsTooLarge() {
         // the images of the letters stay within bounds, those of a long ring do not
-        SkinTwists x = plansOf(1, "a1b1-");
+        SkinTwists x = Made.plans(1, "a1b1-");
         int[] letters = new int[59];
         for (int k = 0; k < 59; k++) {
             letters[k] = k == 58 ? 2 : 1;
@@ -735,7 +720,7 @@ public final class PromisesTest {
     }
 
     private void law() {
-        SkinTwists x = skinOf(3);
+        SkinTwists x = Made.skin(3);
         for (int t = 0; t < 8; t++) {
             for (int u = 0; u < 8; u++) {
                 due.is("28 law " + t + " " + u, x.law(t, u), meet(t, u) ? 1 : 0);
@@ -766,7 +751,7 @@ public final class PromisesTest {
     }
 
     private void carry() {
-        SkinTwists x = skinOf(2);
+        SkinTwists x = Made.skin(2);
         Due.ring(x, 1);
         Due.ring(x, 2);
         Due.ring(x, 3);
@@ -803,7 +788,7 @@ public final class PromisesTest {
     }
 
     private void fewest() {
-        SkinTwists x = plansOf(2, "", "a1a1-", "b1a1b1", "c1a2a2-", "a2a1", "(a2b2-)7", "a1b1c1b2", "b2-a1-");
+        SkinTwists x = Made.plans(2, "", "a1a1-", "b1a1b1", "c1a2a2-", "a2a1", "(a2b2-)7", "a1b1c1b2", "b2-a1-");
         due.is("30 empty", x.fewest(0, 0, NONE), 0);
         due.is("30 empty: none", x.fewest(0, 3, 0), NONE);
         due.is("30 it comes back", x.fewest(1, 3, NONE), 0);

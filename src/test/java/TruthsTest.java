@@ -25,12 +25,6 @@ public final class TruthsTest {
         test.due.end("TruthsTest");
     }
 
-    private static SkinTwists skinOf(int g) {
-        SkinTwists x = new SkinTwists();
-        x.skin(g);
-        return x;
-    }
-
     private static int coreRing(SkinTwists x, int g, int t) {
         if (t < g) {
             return Due.ring(x, 2 * t + 1);
@@ -69,7 +63,7 @@ public final class TruthsTest {
 
     /** Twists along rings that meet once have law 1, those along rings apart law 0. */
     private void lawsAreMeetings(int g) {
-        SkinTwists x = skinOf(g);
+        SkinTwists x = Made.skin(g);
         for (int t = 0; t < 3 * g - 1; t++) {
             coreRing(x, g, t);
         }
@@ -82,7 +76,7 @@ public final class TruthsTest {
     }
 
     private void twistsKeepTheRim(int g) {
-        SkinTwists x = skinOf(g);
+        SkinTwists x = Made.skin(g);
         for (int i = 0; i < g; i++) {
             for (int letter : new int[] {2 * i + 1, 2 * i + 2, -(2 * i + 1), -(2 * i + 2)}) {
                 x.letter(letter);
@@ -118,7 +112,7 @@ public final class TruthsTest {
     }
 
     private void plansKeepMeetings(int g) {
-        SkinTwists x = skinOf(g);
+        SkinTwists x = Made.skin(g);
         someRing(x, g);
         someRing(x, g);
         String text = someText(g, 4);
@@ -134,7 +128,7 @@ public final class TruthsTest {
 
     /** A ring twisted k times along a simple one meets itself k times the square of their meetings. */
     private void twistsMultiplyMeetings(int g) {
-        SkinTwists x = skinOf(g);
+        SkinTwists x = Made.skin(g);
         int t = random.nextInt(3 * g - 1);
         coreRing(x, g, t);
         int u = random.nextInt(3 * g - 1);
@@ -153,7 +147,7 @@ public final class TruthsTest {
     }
 
     private void plansTurnBack(int g) {
-        SkinTwists x = skinOf(g);
+        SkinTwists x = Made.skin(g);
         Due.read(x, 0, someText(g, 5));
         x.turn(1, 0);
         x.chain(2, 0, 1);
@@ -165,7 +159,7 @@ public final class TruthsTest {
     }
 
     private void charactersReadBothWays(int g) {
-        SkinTwists x = skinOf(g);
+        SkinTwists x = Made.skin(g);
         Due.read(x, 0, someText(g, 6));
         long trace = 0;
         for (int letter = 1; letter <= 2 * g; letter++) {
@@ -179,7 +173,7 @@ public final class TruthsTest {
     }
 
     private void lettersOfAnImageAreARow(int g) {
-        SkinTwists x = skinOf(g);
+        SkinTwists x = Made.skin(g);
         Due.read(x, 0, someText(g, 6));
         int together = 0;
         for (int letter = 1; letter <= 2 * g; letter++) {
@@ -196,7 +190,7 @@ public final class TruthsTest {
     private void chainsAreTurns() {
         String[] chains = {"a1b1", "a1b1c1b2", "a1b1c1b2c2b3"};
         for (int g = 1; g <= 3; g++) {
-            SkinTwists x = skinOf(g);
+            SkinTwists x = Made.skin(g);
             Due.read(x, 0, chains[g - 1]);
             due.is("order of the chain", x.order(0, 24), 4 * g + 2);
             if (g < 3) {
@@ -209,7 +203,7 @@ public final class TruthsTest {
 
     /** Long rings are told as short ones are. */
     private void longRingsAreRings() {
-        SkinTwists x = skinOf(1);
+        SkinTwists x = Made.skin(1);
         for (int k = 0; k < 43; k++) {
             x.letter(1);
         }
