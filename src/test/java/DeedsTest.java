@@ -25,10 +25,12 @@ public final class DeedsTest {
         test.carryOfNone();
         test.carryWithin();
         test.carryTheFirst();
+        test.carryByEachTwist();
         test.carryLeavesOutLarge();
         test.carryBounds();
         test.fewestWithin();
         test.fewestTheFirst();
+        test.fewestOfEachTwist();
         test.fewestBounds();
         test.due.end("DeedsTest");
     }
@@ -48,6 +50,10 @@ public final class DeedsTest {
         due.is("shorter", x.same(1, 0), 2);
         due.is("at the end", x.same(1, 2), 2);
         due.is("nothing at all", x.same(3, 7), NONE);
+        // rows of one letter: 1 becomes -2
+        Due.read(x, 0, "a1b1");
+        due.is("at the beginning", x.same(0, 7), 1);
+        due.is("at the beginning", x.same(7, 0), 1);
     }
 
     private void same() {
@@ -99,6 +105,15 @@ public final class DeedsTest {
         due.is("two handles, the other way", x.turns(1), 1);
         due.is("round one handle of two", x.turns(2), 99);
         due.is("none", x.turns(3), 99);
+        // plans that move one letter alone are no turns
+        String[] texts = {"b1", "a1", "b2", "a2"};
+        for (int letter = 1; letter <= 4; letter++) {
+            Due.read(x, 3, texts[letter - 1]);
+            due.is("it moves " + letter, x.same(3, 7), letter);
+            due.is("it moves " + letter, x.turns(3), 99);
+            x.chain(4, 3, 1);
+            due.is("a turn that moves " + letter, x.turns(4), 99);
+        }
         int[] want = {1, 2, -1, -2, 3, 4, -3, -4, 2, 4, 3, -4, -3, 2, 1, -2, -1};
         due.is("letter 2", x.image(1, 2, NONE), want.length);
         for (int i = 0; i < want.length; i++) {
@@ -442,6 +457,37 @@ public final class DeedsTest {
         carries(x, 9, 10, 3, 5, 6, 8);
         carriesNot(x, 9, 10, 2);
         carriesNot(x, 0, 2, 3);
+        // none, whatever was found ahead of it
+        carries(x, 9, 10, 3, 5, 6, 8);
+        carries(x, 0, 0, 3);
+    }
+
+    private void carryByEachTwist() {
+        due.says("(by TWISTS as in twist(), one after the other)");
+        for (int g = 1; g <= 3; g++) {
+            for (int i = 0; i < g; i++) {
+                int a = 2 * i + 1;
+                int b = 2 * i + 2;
+                byOne(g, 2 * i, new int[] {b}, b, a);
+                byOne(g, 2 * i + 1, new int[] {b}, b, -a);
+                byOne(g, 2 * (g + i), new int[] {a}, a, -b);
+                byOne(g, 2 * (g + i) + 1, new int[] {a}, a, b);
+                if (i + 1 < g) {
+                    byOne(g, 2 * (2 * g + i), new int[] {b}, -(a + 2), b, a);
+                    byOne(g, 2 * (2 * g + i) + 1, new int[] {b}, b, -a, -b, a + 2, b);
+                }
+            }
+        }
+    }
+
+    private void byOne(int g, int code, int[] from, int... to) {
+        SkinTwists x = Made.skin(g);
+        Due.ring(x, from);
+        Due.ring(x, to);
+        carriesNot(x, 0, 1, 0);
+        carries(x, 0, 1, 1, code);
+        carries(x, 0, 1, 3, code);
+        carries(x, 1, 0, 3, code ^ 1);
     }
 
     private void carryLeavesOutLarge() {
@@ -523,6 +569,25 @@ public final class DeedsTest {
         fewest(x, 5, 3, 1, 5, 1);
         fewest(x, 6, 3, 2, 8, 4);
         fewest(x, 7, 3, 4, 8, 4);
+    }
+
+    private void fewestOfEachTwist() {
+        due.says("that do THE SAME as a PLAN, likewise");
+        for (int g = 1; g <= 3; g++) {
+            SkinTwists x = Made.skin(g);
+            String kinds = "abc";
+            for (int t = 0; t < 3 * g - 1; t++) {
+                String name = "" + kinds.charAt(t / g) + (1 + t % g);
+                Due.read(x, 0, name);
+                fewestNot(x, 0, 0);
+                fewest(x, 0, 1, 2 * t);
+                fewest(x, 0, 3, 2 * t);
+                Due.read(x, 0, name + "-" + name + name + "-");
+                fewest(x, 0, 3, 2 * t + 1);
+            }
+            // none, whatever was found ahead of it
+            fewest(x, 7, 3);
+        }
     }
 
     private void fewestBounds() {

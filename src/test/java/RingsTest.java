@@ -9,6 +9,7 @@ public final class RingsTest {
         test.aNewObject();
         test.aSkin();
         test.aSkinAnew();
+        test.whatASkinLeaves();
         test.aRowIsClean();
         test.theDraftIsFull();
         test.aRingIsClosed();
@@ -94,6 +95,21 @@ public final class RingsTest {
             }
             due.is("the next ring is the first", Due.ring(x, 2 * g), 0);
         }
+    }
+
+    /** The document does not say what becomes of THE DRAFT, THE TEXT and the latest FAULT; NOTES.md has what was decided. */
+    private void whatASkinLeaves() {
+        due.says("A SKIN with g HANDLES, no RINGS, all PLANS empty: 2 g.");
+        SkinTwists x = Made.skin(3);
+        Due.read(x, 0, "a1 ?");
+        Due.feed(x, "a3");
+        x.letter(6);
+        due.is("skin", x.skin(1), 2);
+        due.is("no letter of the old skin", x.count(2), 0);
+        due.is("nothing of it becomes a ring", x.ring(), NOT);
+        due.is("the text", x.count(4), 2);
+        due.is("the fault", x.fault(), 3);
+        due.is("the text is read as one of the new skin", x.read(0), -12);
     }
 
     private void aRowIsClean() {
