@@ -767,13 +767,13 @@ public final class SkinTwists {
         }
 
         private static int stepsRound(int from, int to) {
-            int steps = placeOf(to) - placeOf(from);
+            int start = from + MOST_LETTERS;
+            int end = to + MOST_LETTERS;
+            if (start < 0 || start >= PLACES.length || end < 0 || end >= PLACES.length) {
+                return 0;
+            }
+            int steps = PLACES[end] - PLACES[start];
             return steps < 0 ? steps + ROUND : steps;
-        }
-
-        private static int placeOf(int letter) {
-            int index = letter + MOST_LETTERS;
-            return index >= 0 && index < PLACES.length ? PLACES[index] : 0;
         }
     }
 
