@@ -19,6 +19,9 @@ public final class LanguageTest {
     };
     private static final Set<String> CONSTANTS = Set.of("NONE", "UNKNOWN", "OUTSIDE", "NOT", "FULL", "LARGE");
 
+    private static final Set<Class<?>> STATIC_KINDS = Set.of(int.class, long.class, boolean.class, char.class,
+        String.class, int[].class, long[].class, char[].class, byte[].class);
+
     private final Due due = new Due();
 
     public static void main(String[] args) throws IOException {
@@ -26,6 +29,7 @@ public final class LanguageTest {
         test.noForbiddenWords();
         test.onlyTheFaceIsSeen();
         test.methodsAreShort();
+        test.fieldsAreFew();
         test.due.end("LanguageTest");
     }
 
@@ -81,5 +85,25 @@ public final class LanguageTest {
                 due.is("rule 11: lines up to " + (k + 1), k - start <= 60 || lines[k].length() == 5 ? 1 : 0, 1);
             }
         }
+    }
+
+    private void fieldsAreFew() {
+        fieldsOf(SkinTwists.class);
+        for (Class<?> inside : SkinTwists.class.getDeclaredClasses()) {
+            fieldsOf(inside);
+        }
+    }
+
+    private void fieldsOf(Class<?> owner) {
+        int own = 0;
+        for (Field field : owner.getDeclaredFields()) {
+            if (Modifier.isStatic(field.getModifiers())) {
+                due.is("rule 5: final " + field, Modifier.isFinal(field.getModifiers()) ? 1 : 0, 1);
+                due.is("rule 5: kind of " + field, STATIC_KINDS.contains(field.getType()) ? 1 : 0, 1);
+            } else {
+                own++;
+            }
+        }
+        due.is("rule 11: fields of " + owner, own <= 20 ? 1 : 0, 1);
     }
 }
